@@ -1691,7 +1691,11 @@ public final class RingKiln {
     /** Looks for the ROW by which least COAL goes, days that rows have in common passed once. */
     private static final class RowSearch {
         static final int MOST_DAYS = 5;
+        static final int STEP = 3;
+        static final int MOST_TRIED = 9;
+        static final int AHEAD_OF_FIRST = -STEP;
         static final int MORE_THAN_ANY = 1000;
+        static final int MOST_TRIES = 10000;
 
         final Works works;
         final Course course;
@@ -1711,7 +1715,7 @@ public final class RingKiln {
         int answer(int chamber, int days, int what) {
             least = MORE_THAN_ANY;
             states[0].copyFrom(works.state);
-            tryFrom(0, days, chamber);
+            tryAll(days, chamber);
             if (least == MORE_THAN_ANY) {
                 return -2;
             }
@@ -1721,42 +1725,46 @@ public final class RingKiln {
             return what <= days ? best[what - 1] : NONE;
         }
 
-        private void tryFrom(int depth, int days, int chamber) {
-            if (depth >= days || depth >= MOST_DAYS) {
-                keepIfRipe(depth, chamber);
-                return;
-            }
-            State ahead = states[depth];
-            State behind = states[depth + 1];
-            for (int fed = 0; fed <= 9; fed += 3) {
-                if (fed > 0 && isAsBefore(ahead, fed)) {
-                    return;
+        /** The rows as a tree, a DAY a level; a row by which not less goes is left where it shows. */
+        private void tryAll(int days, int chamber) {
+            int depth = 0;
+            tried[0] = AHEAD_OF_FIRST;
+            for (int i = 0; i < MOST_TRIES && depth >= 0 && depth < MOST_DAYS; i++) {
+                tried[depth] += STEP;
+                if (tried[depth] > MOST_TRIED || isAsBefore(states[depth], tried[depth])) {
+                    depth--;
+                    continue;
                 }
-                tried[depth] = fed;
-                behind.copyFrom(ahead);
-                course.passWith(behind, works.told, fed);
-                if (gone(behind) < least) {
-                    tryFrom(depth + 1, days, chamber);
+                State behind = states[depth + 1];
+                behind.copyFrom(states[depth]);
+                course.passWith(behind, works.told, tried[depth]);
+                if (gone(behind) >= least) {
+                    continue;
+                }
+                if (depth + 1 < days) {
+                    depth++;
+                    tried[depth] = AHEAD_OF_FIRST;
+                } else {
+                    keepIfRipe(behind, chamber);
                 }
             }
         }
 
         /** Whether no more is FED than by the number before this one, which comes first then. */
-        private static boolean isAsBefore(State ahead, int fed) {
-            return ahead.cells[State.FIRE] == NONE || ahead.cells[State.COAL] <= fed - 3;
+        private static boolean isAsBefore(State ahead, int number) {
+            return number > 0
+                    && (ahead.cells[State.FIRE] == NONE || ahead.cells[State.COAL] <= number - STEP);
         }
 
         private int gone(State state) {
             return works.state.cells[State.COAL] - state.cells[State.COAL];
         }
 
-        private void keepIfRipe(int depth, int chamber) {
-            State end = states[depth];
-            if (end.kindOf(works.told, chamber) == RAW) {
-                return;
+        private void keepIfRipe(State end, int chamber) {
+            if (end.kindOf(works.told, chamber) != RAW) {
+                least = gone(end);
+                System.arraycopy(tried, 0, best, 0, MOST_DAYS);
             }
-            least = gone(end);
-            System.arraycopy(tried, 0, best, 0, MOST_DAYS);
         }
     }
 

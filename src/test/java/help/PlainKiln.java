@@ -925,6 +925,11 @@ final class PlainKiln {
         return at;
     }
 
+    /** Where the FIRE is behind a DAY, from the begin on, by a RULE; for NOTES that can be so. */
+    int fireBehind(int rule, int n) {
+        return fires(now.text, rule)[n];
+    }
+
     private boolean fits(int[] fires) {
         for (int[] note : now.notes) {
             if (fires[note[0]] != note[1]) {
