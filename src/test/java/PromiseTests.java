@@ -255,6 +255,8 @@ public final class PromiseTests {
         ruleIs("feed [1]", fault(5, 0));
         ruleIs("feed warmer", fault(5, 0));
         ruleIs("feed Warm", fault(5, 0));
+        ruleIs("feed warmz", fault(5, 0));
+        ruleIs("feed awarm", fault(5, 0));
         ruleIs("feed 1 ifwarm=1", fault(7, 0));
         ruleIs("feed 1;", fault(7, 0));
         ruleIs("feed 1;fed 1", fault(7, 0));
@@ -970,6 +972,10 @@ public final class PromiseTests {
         none.force(0);
         restsAre(none, 1, 2, 8, 0, -2, -2);
         restsAre(of("kiln 3 0"), 0, 2, 20, 1, -1, -1);
+        // CLINKER that is BURNT 30 has as much as an EMPTY one
+        RingKiln thirty = of("kiln 6 279;clay 29 6;set 0 0;set 1 0;fire 0", "feed 9");
+        thirty.force(0);
+        restsAre(thirty, 2, 4, 11, 4, -1, -1);
         int[][] wrong = {{1, 1, 1, 0}, {0, 1, 1, 0}, {1, 0, 1, 0}, {1, 4, 1, 0}, {-1, 1, 1, 0}, {1, 2, 0, 0},
             {1, 2, 21, 0}, {1, 2, 1, 3}, {1, 2, 1, -1}};
         for (int[] w : wrong) {
@@ -1095,6 +1101,14 @@ public final class PromiseTests {
         Due.is("no what 2", x.look(2), -1);
         Due.is("no what -1", x.look(-1), -1);
         Due.is("no kiln", new RingKiln().look(0), -1);
+        // OUT behind DAY 60 or 61 by RULE 0 or 1, else round the ring alike
+        String ring = "kiln 3 999;clay 0 1;set 0 0;set 1 0;set 2 0;fire 0";
+        RingKiln last = of(ring, "feed 4 if day<50");
+        Due.is("day 60", last.look(0), 60);
+        Due.is("parted", last.look(1), 1);
+        RingKiln beyond = of(ring, "feed 4 if day<51");
+        Due.is("not before day 61", beyond.look(0), 0);
+        Due.is("alike", beyond.look(1), 2);
         RingKiln same = of(ONE, "feed 4", "feed 2+2");
         Due.is("all alike: day", same.look(0), 0);
         Due.is("all alike", same.look(1), 3);
@@ -1145,6 +1159,12 @@ public final class PromiseTests {
         // without COAL it is BURNT 5 9; what is BURNT gets no wetter
         burnt.day();
         Due.is("rain on what is burnt", burnt.rains(1, 1, 100, 0), 1);
+        // CHAMBERS 1 and 2 are rained on for weeks ahead of the heat; WET 61 would be a DAY too much once
+        RingKiln wet = of("kiln 3 999;clay 29 31;clay 30 9;set 0 0;set 1 1;set 2 1;fire 0",
+                "feed 1 if warm<9 and day<34;feed 0 if day<34;feed 6");
+        wet.force(0);
+        wet.seed(433);
+        Due.is("60 at most", wet.rains(10, 46, 88, 0), 5);
     }
 
     // Promise 38
@@ -1205,6 +1225,7 @@ public final class PromiseTests {
             Due.is("warm as at first", x.chamber(0, 3), 40);
         }
         Due.is("image 0 was never made", x.back(0), -1);
+        imagesOfNotesAndActs();
         int[] wrong = {-1, 4, Integer.MAX_VALUE, Integer.MIN_VALUE};
         for (int w : wrong) {
             Due.is("no image", x.image(w), -1);
@@ -1221,5 +1242,35 @@ public final class PromiseTests {
         Due.is("back to no kiln", none.back(1), 0);
         Due.is("no chambers", none.count(0), 0);
         Due.is("no fire", none.count(6), -1);
+    }
+
+    /** What comes later, more than can be undone, is not seen in an IMAGE. */
+    private static void imagesOfNotesAndActs() {
+        RingKiln x = twoRules();
+        x.note(1, 0);
+        x.note(0, 0);
+        for (int i = 1; i <= 22; i++) {
+            x.buy(i);
+        }
+        x.image(0);
+        x.note(-1, 0);
+        x.note(2, 2);
+        x.note(3, 1);
+        for (int i = 0; i < 33; i++) {
+            x.buy(99);
+        }
+        Due.is("coal then", x.count(7), 999);
+        x.back(0);
+        Due.is("notes", x.count(11), 2);
+        Due.is("by the notes of the image", x.ruled(0), 1);
+        Due.is("rule 0", x.ruled(1), 0);
+        int coal = 20 + 22 * 23 / 2;
+        for (int i = 22; i >= 3; i--) {
+            Due.is("coal", x.count(7), coal);
+            Due.is("undone in the image", x.undo(), i - 3);
+            coal -= i;
+        }
+        Due.is("coal at last", x.count(7), 23);
+        Due.is("no more", x.undo(), -2);
     }
 }

@@ -192,8 +192,9 @@ public final class RandomRuns {
                 due("image(" + k + ")", x.image(k), y.image(k));
                 break;
             case 1:
-                if (once(4)) {
-                    due("back(" + k + ")", x.back(k), y.back(k));
+                due("back(" + k + ")", x.back(k), y.back(k));
+                for (int i = below(6); i > 0; i--) {
+                    due("undo()", x.undo(), y.undo());
                 }
                 break;
             case 2: {
