@@ -5,8 +5,10 @@
 public final class RingKiln {
     public static final int NONE = -1;
 
-    private static final int WITHOUT = -2;
-    private static final int NO_SUCH = -3;
+    /** There is none such, or, where NONE is an answer like others, the call is without what it needs. */
+    private static final int NO_ANSWER = -2;
+    /** The call is without what it needs, where NONE and -2 are answers. */
+    private static final int NO_QUESTION = -3;
 
     private static final int MOST_BYTES = 400;
     private static final int MOST_CLAUSES = 40;
@@ -109,7 +111,7 @@ public final class RingKiln {
 
     public int force(int rule) {
         if (rule < NONE || rule >= book.rules) {
-            return -2;
+            return NO_ANSWER;
         }
         int was = now.ruleInForce;
         now.ruleInForce = rule;
@@ -118,7 +120,7 @@ public final class RingKiln {
 
     public int chamber(int chamber, int what) {
         if (!now.hasChamber(chamber)) {
-            return WITHOUT;
+            return NO_ANSWER;
         }
         int[] cells = now.state.cells;
         switch (what) {
@@ -133,7 +135,7 @@ public final class RingKiln {
             case 4:
                 return now.state.kindOf(now.told, chamber);
             default:
-                return WITHOUT;
+                return NO_ANSWER;
         }
     }
 
@@ -155,7 +157,7 @@ public final class RingKiln {
 
     public int order(int order, int what) {
         if (!now.hasOrder(order)) {
-            return WITHOUT;
+            return NO_ANSWER;
         }
         switch (what) {
             case 0:
@@ -167,7 +169,7 @@ public final class RingKiln {
             case 3:
                 return now.state.cells[State.SENT + order];
             default:
-                return WITHOUT;
+                return NO_ANSWER;
         }
     }
 
@@ -234,7 +236,7 @@ public final class RingKiln {
 
     public int undo() {
         if (now.pastCount == 0) {
-            return -2;
+            return NO_ANSWER;
         }
         now.forgetLast();
         return now.pastCount;
@@ -244,7 +246,7 @@ public final class RingKiln {
         boolean chamberless = what == 3 || what == 4;
         if (!now.isBuilt() || n < 0 || n > MOST_AHEAD
                 || !chamberless && !now.hasChamber(chamber)) {
-            return WITHOUT;
+            return NO_ANSWER;
         }
         switch (what) {
             case 0:
@@ -258,7 +260,7 @@ public final class RingKiln {
             case 4:
                 return foresight.stateAfter(n).cells[State.COAL];
             default:
-                return WITHOUT;
+                return NO_ANSWER;
         }
     }
 
@@ -292,14 +294,14 @@ public final class RingKiln {
     public int row(int chamber, int n, int what) {
         if (!now.hasSetChamber(chamber) || n < 1 || n > RowSearch.MOST_DAYS
                 || what < 0 || what > RowSearch.MOST_DAYS) {
-            return NO_SUCH;
+            return NO_QUESTION;
         }
         return foresight.rowSearch.answer(chamber, n, what);
     }
 
     public int plan(int chamber, int n, int what) {
         if (!now.hasEmptyChamber(chamber) || n < 1 || n > 40 || what < 0 || what > 1) {
-            return WITHOUT;
+            return NO_ANSWER;
         }
         return foresight.bestClay(chamber, n, what);
     }
@@ -333,7 +335,7 @@ public final class RingKiln {
     public int rests(int one, int other, int n, int what) {
         if (one == other || !now.hasEmptyChamber(one) || !now.hasEmptyChamber(other)
                 || n < 1 || n > 20 || what < 0 || what > 2) {
-            return NO_SUCH;
+            return NO_QUESTION;
         }
         return foresight.restsOf(one, other, n, what);
     }
@@ -359,7 +361,7 @@ public final class RingKiln {
         }
         if (n < 0 || n > LAST_NOTED_DAY || chamber != NONE && !now.hasChamber(chamber)
                 || !now.isBuilt() || now.notes >= MOST_NOTES) {
-            return -2;
+            return NO_ANSWER;
         }
         now.noteDay[now.notes] = n;
         now.noteFire[now.notes] = chamber;
@@ -369,7 +371,7 @@ public final class RingKiln {
 
     public int ruled(int what) {
         if (!now.isBuilt() || what < 0 || what > 1) {
-            return NO_SUCH;
+            return NO_QUESTION;
         }
         return hindsight.guessRule(book.rules, what);
     }
@@ -1547,7 +1549,7 @@ public final class RingKiln {
                     return day;
                 }
             }
-            return -2;
+            return NO_ANSWER;
         }
 
         private boolean isSo(int question, int chamber, int fireAhead) {
@@ -1606,7 +1608,7 @@ public final class RingKiln {
                 return rests;
             }
             if (rests == 0) {
-                return -2;
+                return NO_ANSWER;
             }
             return what == 1 ? first / ways - 1 : first % ways - 1;
         }
@@ -1639,7 +1641,7 @@ public final class RingKiln {
                     }
                 }
             }
-            return -2;
+            return NO_ANSWER;
         }
 
         private boolean areAlike(int i, int j) {
@@ -1717,7 +1719,7 @@ public final class RingKiln {
             states[0].copyFrom(works.state);
             tryAll(days, chamber);
             if (least == MORE_THAN_ANY) {
-                return -2;
+                return NO_ANSWER;
             }
             if (what == 0) {
                 return least;
@@ -1790,7 +1792,7 @@ public final class RingKiln {
             int least = itsNeeds ? LEAST_NEEDS : 0;
             int most = itsNeeds ? MOST_NEEDS : MOST_WET;
             int fitting = 0;
-            int first = -2;
+            int first = NO_ANSWER;
             for (int number = least; number <= most; number++) {
                 guessed[clay] = number;
                 if (fits(guess, works.ruleInForce)) {
@@ -1818,7 +1820,7 @@ public final class RingKiln {
 
         int guessRule(int rules, int what) {
             int fitting = 0;
-            int first = -2;
+            int first = NO_ANSWER;
             for (int rule = NONE; rule < rules; rule++) {
                 if (fits(works.told, rule)) {
                     first = fitting == 0 ? rule : first;
@@ -1836,8 +1838,8 @@ public final class RingKiln {
                     fitting++;
                 }
             }
-            int best = -2;
-            int fewest = -2;
+            int best = NO_ANSWER;
+            int fewest = NO_ANSWER;
             for (int day = 0; day < DAYS && fitting > 0; day++) {
                 int most = mostAlike(day, fitting);
                 if (day == 0 || most < fewest) {
