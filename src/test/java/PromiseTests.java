@@ -1,4 +1,7 @@
-/** Each promise of the document, 1 to 40, by runs whose answers were worked out by hand. */
+/**
+ * Each promise of the document, 1 to 40. Most answers were worked out by hand; those of long runs (no rests, CLINKER
+ * BURNT 30, WET 60, DAYS 60 and 200, days alike in a ring) were found with PlainKiln.
+ */
 public final class PromiseTests {
     /**
      * Without a RULE (4 COAL a DAY) behind DAYS 0, 1, 2 ..: CHAMBER 0 is WARM 46 51 42 35 29 24 20 16,
