@@ -52,54 +52,28 @@ public final class PromiseTests {
         Due.end();
     }
 
-    private static RingKiln of(String text) {
-        RingKiln x = new RingKiln();
-        Texts.tell(x, text);
-        Due.holds("kiln of " + text, x.kiln() >= 0);
-        return x;
-    }
-
     private static RingKiln of(String text, String... rules) {
-        RingKiln x = of(text);
-        for (int i = 0; i < rules.length; i++) {
-            Texts.tell(x, rules[i]);
-            Due.is("rule of " + rules[i], x.rule(), i);
-        }
-        return x;
+        return Kilns.of(text, rules);
     }
 
     private static void pass(RingKiln x, int days) {
-        for (int i = 0; i < days; i++) {
-            Due.holds("a day", x.day() >= 0);
-        }
+        Kilns.pass(x, days);
     }
 
     private static int fault(int place, int kind) {
-        return -2 - (1 + 8 * place + kind);
+        return Kilns.fault(place, kind);
     }
 
     private static void kilnIs(String text, int want) {
-        RingKiln x = new RingKiln();
-        Texts.tell(x, text);
-        Due.is("kiln of '" + text + "'", x.kiln(), want);
-        Due.is("bytes behind kiln of '" + text + "'", x.count(14), 0);
-        Due.holds("a kiln of '" + text + "'", x.count(0) > 0 == want >= 0);
+        Kilns.kilnIs(text, want);
     }
 
     private static void ruleIs(String text, int want) {
-        RingKiln x = new RingKiln();
-        Texts.tell(x, text);
-        Due.is("rule of '" + text + "'", x.rule(), want);
-        Due.is("bytes behind rule of '" + text + "'", x.count(14), 0);
-        Due.is("rules behind '" + text + "'", x.count(3), want >= 0 ? 1 : 0);
+        Kilns.ruleIs(text, want);
     }
 
     private static String times(String part, int n) {
-        StringBuilder b = new StringBuilder();
-        for (int i = 0; i < n; i++) {
-            b.append(part);
-        }
-        return b.toString();
+        return Kilns.times(part, n);
     }
 
     // Promise 1
@@ -496,16 +470,8 @@ public final class PromiseTests {
         Due.is("no kiln", new RingKiln().set(0, 0), -1);
     }
 
-    /** SET, LIGHT, DAYS and DRAW of one CHAMBER without COAL, WET 0: BURNT 3 6 8 10, WARM 25 20 16 13. */
     private static void bake(RingKiln x, int chamber, int clay) {
-        x.set(chamber, clay);
-        Due.is("bake: light", x.light(chamber), 30);
-        int kind = -1;
-        for (int i = 0; i < 5 && kind < 0; i++) {
-            x.day();
-            kind = x.draw(chamber);
-        }
-        Due.is("bake: good", kind, 2);
+        Kilns.bake(x, chamber, clay);
     }
 
     // Promise 12

@@ -1,16 +1,23 @@
 /** Counts and prints answers that are not as due. */
 final class Due {
+    private static String sentence = "";
     private static int wrong;
     private static int asked;
 
     private Due() {
     }
 
+    /** The sentence of the document that the answers from here on belong to. */
+    static void under(String words) {
+        sentence = words;
+    }
+
     static void is(String call, int got, int want) {
         asked++;
         if (got != want) {
             wrong++;
-            System.out.println(call + " answered " + got + ", due is " + want);
+            String where = sentence.isEmpty() ? "" : "'" + sentence + "': ";
+            System.out.println(where + call + " answered " + got + ", due is " + want);
         }
     }
 
