@@ -180,6 +180,20 @@ public final class EdgesOfDays {
         x.force(-1);
         Due.is("fed without a rule", x.day(), 0);
         Due.is("coal stays", x.count(7), 99);
+        // of nine CHAMBERS one, hot and much BURNT, has no more to do with a FIRE that is OUT
+        RingKiln y = Kilns.under("feed 9", "kiln 9 999;clay 0 60;set 8 0;set 2 0;fire 8");
+        for (int i = 0; i < 20; i++) {
+            y.day();
+            y.light(8);
+        }
+        y.day();
+        Due.is("out again", y.count(6), -1);
+        Due.is("burnt at most", y.chamber(8, 2), 200);
+        int warm = y.chamber(8, 3);
+        Due.is("not fed", y.day(), 0);
+        Due.is("burnt as before", y.chamber(8, 2), 200);
+        Due.is("cooler", y.chamber(8, 3), cooled(warm));
+        Due.is("the other is cold", y.chamber(2, 3) + y.chamber(2, 2), 0);
     }
 
     private static void warmerByFourTwoOne() {

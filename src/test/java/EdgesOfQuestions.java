@@ -26,6 +26,7 @@ public final class EdgesOfQuestions {
         rowOfOneToFive();
         rowAsFarAsThereIsCoal();
         rowOfSeveral();
+        rowsInTurn();
         rowOfNone();
         rowRefused();
         planUpTo40();
@@ -361,6 +362,36 @@ public final class EdgesOfQuestions {
         rowIs(ripe, 0, 0, 0, 0, 0, 0);
         // ripe behind DAY 0 in any case: no COAL at all
         rowIs(one(0, 5), 0, 0, 0, 0);
+    }
+
+    /** Nothing of one ROW is left for the next: each is as a new object has it. */
+    private static void rowsInTurn() {
+        Due.under("By what is asked nothing changes");
+        RingKiln bought = one(0, 15);
+        Due.is("no coal, two days", bought.row(0, 2, 0), -2);
+        bought.buy(99);
+        Due.is("coal, one day", bought.row(0, 1, 0), -2);
+        Due.is("once more", bought.row(0, 1, 0), -2);
+        // 3 and 6: 6 + 67 / 8 = 14; 6 and 3: 8 + 65 / 8 = 16
+        rowIs(bought, 9, 6, 3);
+        String[] texts = {"kiln 3 99;clay 0 33;clay 0 9;set 0 0;set 1 1;fire 0", "kiln 3 7;clay 4 12;clay 0 5;set 0 0;set 1 1;fire 1",
+            "kiln 4 60;clay 2 3;clay 0 50;set 0 0;set 1 1;fire 0"};
+        for (String text : texts) {
+            RingKiln x = Kilns.of(text);
+            int[] turns = {5, 1, 4, 2, 3, 5, 2, 1, 3, 4, 1};
+            for (int turn = 0; turn < turns.length; turn++) {
+                int n = turns[turn];
+                int c = turn % 2;
+                for (int what = 0; what <= 5; what++) {
+                    RingKiln fresh = Kilns.of(text);
+                    Kilns.pass(fresh, x.count(5));
+                    Due.is("row " + c + ", " + n + ", " + what, x.row(c, n, what), fresh.row(c, n, what));
+                }
+                if (turn == 5) {
+                    x.day();
+                }
+            }
+        }
     }
 
     private static void rowOfNone() {

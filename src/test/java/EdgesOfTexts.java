@@ -709,6 +709,18 @@ public final class EdgesOfTexts {
         holds("[1=2 and 1=2] or 1=1", true);
         holds("1=2 and [1=2 or 1=1]", false);
         holds("[not 1=2] and not [1=2]", true);
+        String[] so = {"1<2", "1<=2", "2=2", "2>=1", "2>1"};
+        String[] notSo = {"2<1", "2<=1", "1=2", "1>=2", "1>2"};
+        for (int i = 0; i < so.length; i++) {
+            for (int j = 0; j < so.length; j++) {
+                holds(so[i] + " and " + so[j], true);
+                holds(so[i] + " and " + notSo[j], false);
+                holds(notSo[i] + " or " + so[j], true);
+                holds(notSo[i] + " or " + notSo[j], false);
+                holds("not " + so[i] + " or " + notSo[j], false);
+                holds("not " + notSo[i] + " and " + so[j], true);
+            }
+        }
         Due.under("SUM: TERM { (+ or -) TERM }. TERM: VALUE { (* or / or %) VALUE }");
         fedIs("feed 1+2*3", 7);
         fedIs("feed 2*3+1", 7);
